@@ -376,7 +376,7 @@ public final class QueryGraph {
         }
     }
 
-    /** A token of the query that is written out; as an OBJECT it is also the head of its ENTRY. */
+    /** A token of the query that is written out; the first one that makes an ENTRY also stands for it. */
     private static final class Step {
         final int at;
         int op;
@@ -391,7 +391,9 @@ public final class QueryGraph {
         /** What the type says of the field of a NUMBER or OBJECT. */
         int kind;
         boolean required;
+        /** The ENTRY behind this one in the OBJECT that is being worked out. */
         Step nextEntry;
+        /** The next step that was merged into the same ENTRY, with its SET behind it. */
         Step nextSet;
 
         Step(int at) {
@@ -701,6 +703,7 @@ public final class QueryGraph {
         }
 
         private Step collectEntries(int row, Step sets, int deep) {
+            // Texts that are GOOD never go so deep; this only keeps the recursion bounded by itself.
             if (deep > MOST_OBJECTS_DEEP) {
                 stopped = LONG;
             }
