@@ -539,21 +539,17 @@ public final class QueryGraph {
             lastEntry = null;
             clashed = false;
             for (Step opener = sets; opener != null && !clashed; opener = opener.nextSet) {
-                collectSet(type, opener);
+                for (int i = opener.at + 1; i < opener.close && !clashed; i++) {
+                    Step step = plan.steps[i];
+                    if (step.isEntry()) {
+                        enter(step);
+                    }
+                    if (isPassedOver(step, type)) {
+                        i = Math.max(i, step.close);
+                    }
+                }
             }
             return firstEntry;
-        }
-
-        private void collectSet(int type, Step opener) {
-            for (int i = opener.at + 1; i < opener.close && !clashed; i++) {
-                Step step = plan.steps[i];
-                if (step.isEntry()) {
-                    enter(step);
-                }
-                if (isPassedOver(step, type)) {
-                    i = Math.max(i, step.close);
-                }
-            }
         }
 
         private boolean isPassedOver(Step step, int type) {

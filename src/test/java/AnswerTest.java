@@ -12,7 +12,10 @@ public final class AnswerTest {
         Due.end();
     }
 
-    /** Type 0: NUMBER that is required, LINK to 0, MANY of 0; row 1 links to 2, row 1 has 2, 1 and 3, and 2 and 3 have no number. */
+    /**
+     * Type 0: NUMBER that is required, LINK to 0, MANY of 0. Row 1 links to 2 and has 2, 1 and 3 as MANY; 2 and 3 have
+     * no number.
+     */
     private static QueryGraph linked() {
         QueryGraph x = new QueryGraph();
         x.type();

@@ -13,7 +13,10 @@ public final class FillTest {
         Due.end();
     }
 
-    /** Types 0 and 1; the fields of 0: NUMBER, LINK to 1, MANY of 1, LINK to any; of 1: NUMBER, MANY of any. Rows 1, 2 of 0, 3, 4 of 1. */
+    /**
+     * Fields of type 0: NUMBER, LINK to 1, MANY of 1, LINK to any; of type 1: NUMBER, MANY of any. Rows 1 and 2 are of
+     * type 0, 3 and 4 of type 1.
+     */
     private static QueryGraph filled() {
         QueryGraph x = new QueryGraph();
         x.type();

@@ -4,7 +4,9 @@ import java.util.TreeMap;
 /** Runs of calls, chosen by a fixed seed, on a QueryGraph and on the Model side by side. */
 public final class ModelTest {
     private static final int RUNS = 4000;
-    private static final int[] WILD = {Integer.MIN_VALUE, -1000, -1, 0, 1, 2, 3, 4, 5, 6, 9, 12, 13, 16, 64, 999, 1000, Integer.MAX_VALUE};
+    private static final int[] WILD = {
+        Integer.MIN_VALUE, -1000, -1, 0, 1, 2, 3, 4, 5, 6, 9, 12, 13, 16, 64, 999, 1000, Integer.MAX_VALUE,
+    };
 
     private final Random random;
     private final int run;
