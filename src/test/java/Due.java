@@ -1,22 +1,31 @@
 /** What the tests of the project share: comparing, writing queries briefly, reading answers whole. */
 final class Due {
     private static int wrong = 0;
+    private static String sentence = "";
 
     private Due() {
     }
 
+    /** The words of the document that the next comparisons are for; they stand beside each one that fails. */
+    static void sentence(String words) {
+        sentence = words;
+    }
+
     static void due(String call, int got, int want) {
         if (got != want) {
-            wrong++;
-            System.out.println(call + " answered " + got + ", due is " + want);
+            tell(call + " answered " + got + ", due is " + want);
         }
     }
 
     static void due(String what, String got, String want) {
         if (!got.equals(want)) {
-            wrong++;
-            System.out.println(what + " was '" + got + "', due is '" + want + "'");
+            tell(what + " was '" + got + "', due is '" + want + "'");
         }
+    }
+
+    private static void tell(String fault) {
+        wrong++;
+        System.out.println(fault + (sentence.isEmpty() ? "" : " [" + sentence + "]"));
     }
 
     static void end() {
@@ -74,6 +83,14 @@ final class Due {
         due("count(2)", x.count(2), length);
         due("count(3)", x.count(3), places.isEmpty() ? 0 : places.split(" ").length);
         due("place() behind ask(" + row + ")", x.place(), QueryGraph.REFUSED);
+    }
+
+    /** An ask whose whole answer is cut back to nothing. */
+    static void dueAnswerOfNothing(QueryGraph x, int row, int places) {
+        due("ask(" + row + ")", x.ask(row), 1);
+        due("codes of ask(" + row + ")", codes(x), "1");
+        due("count(3)", x.count(3), places);
+        due("how many places can be read", places(x).split(" ").length, places);
     }
 
     /** An ask that has no answer: WRONG, CLASH or LONG. */
