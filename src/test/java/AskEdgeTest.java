@@ -6,10 +6,14 @@ public final class AskEdgeTest {
     private static final int LONG = QueryGraph.LONG;
     /** Ten NUMBERS of field 0, one for each name. */
     private static final String TEN = "N00 N10 N20 N30 N40 N50 N60 N70 N80 N90 E";
+    /** Four OBJECTS with ten NUMBERS each, their MANY with its name, and the 2 and 3 around all. */
+    private static final int FIRST = 4 * 22 + 3 + 2;
 
     public static void main(String[] args) {
         theObjectOfTheRow();
         noSuchRow();
+        itemsInOrder();
+        tenNames();
         onItsType();
         ifTheSwitchIs();
         useOfAFragment();
@@ -26,6 +30,7 @@ public final class AskEdgeTest {
         placeOfNames();
         placeOfMany();
         theLongestPlace();
+        theLongestPlaceOfLinks();
         codesOfTheAnswer();
         wrongBeforeClash();
         theCode121();
@@ -106,6 +111,31 @@ public final class AskEdgeTest {
             Due.due("codes", Due.codes(x), "2 10 2001 3");
         }
         Due.dueNoAnswer(x, 5, WRONG);
+    }
+
+    private static void itemsInOrder() {
+        Due.sentence("To COLLECT of a row with one or more SETS: their items in order:");
+        QueryGraph x = free();
+        x.link(1, 1, 2);
+        dueAsk(x, 1, "K1 T0 K2 I00 K3 E K4 E K5 E", "2 11 2000 12 2000 13 2000 14 2000 15 2000 3", "");
+        dueAsk(x, 1, "O01 T0 K3 E E O01 I00 K2 E E O01 K1 E E", "2 10 2 13 2000 12 2000 11 2000 3 3", "");
+        Due.sentence("The OBJECT of a row with SETS has the ENTRIES collected, each with a value:");
+        dueAsk(x, 1, "I01 K0 E O01 I01 K0 E E E", "2 10 2 3 3", "");
+    }
+
+    private static void tenNames() {
+        Due.sentence("make an ENTRY with their name, or if there is an ENTRY with that name:");
+        QueryGraph x = free();
+        Due.write(x, 1, TEN);
+        String codes = "2";
+        for (int name = 0; name <= 9; name++) {
+            codes += " " + (10 + name) + " 1001";
+        }
+        dueAsk(x, 1, "U1 E", codes + " 3", "");
+        dueAsk(x, 1, "U1 U1 N90 N00 E", codes + " 3", "");
+        dueNone(x, 1, "U1 K9 E", CLASH);
+        dueNone(x, 1, "K9 U1 E", CLASH);
+        dueNone(x, 1, "U1 K0 E", CLASH);
     }
 
     private static void onItsType() {
@@ -352,6 +382,19 @@ public final class AskEdgeTest {
         Due.due("the place", Due.places(x), "0.11.1.10.2.11.0.10.1.11.2.10.0.11.1.10.2.11.0.10.1.11.2.10.9");
     }
 
+    private static void theLongestPlaceOfLinks() {
+        Due.sentence("A PLACE is the row of names, and for MANY behind the name 10 + the number (from 0) in it, from the "
+            + "outermost one on.");
+        QueryGraph x = rows(true, false, false);
+        x.link(1, 1, 1);
+        x.clear(1, 0);
+        for (int text = 0; text <= 3; text++) {
+            Due.write(x, text, "O01 O11 O21 " + (text == 3 ? "N90" : "U" + (text + 1)) + " E E E E");
+        }
+        Due.dueAnswer(x, 1, "2 10 2 11 2 12 2 10 2 11 2 12 2 10 2 11 2 12 2 10 2 11 2 12 1 3 3 3 3 3 3 3 3 3 3 3 3",
+            "0.1.2.0.1.2.0.1.2.0.1.2.9");
+    }
+
     private static void codesOfTheAnswer() {
         Due.sentence("The ANSWER as a row of codes: nothing: 1; a number n: 1000 + n; KIND: 2000 + type; a MANY: 4, its "
             + "OBJECTS, 5; an OBJECT: 2, for each entry 10 + name and the value, 3.");
@@ -378,9 +421,6 @@ public final class AskEdgeTest {
         dueNone(x, 1, "O02 O02 O02 E E E N01 E", WRONG);
         Due.due("place()", x.place(), 6);
     }
-
-    /** Four OBJECTS with ten NUMBERS each, their MANY with its name, and the 2 and 3 around all. */
-    private static final int FIRST = 4 * 22 + 3 + 2;
 
     /** A query of FIRST codes, and the rest's codes behind them; with the NUMBER required the four OBJECTS are cut back. */
     private static QueryGraph longOne(boolean number, String rest) {
@@ -458,7 +498,7 @@ public final class AskEdgeTest {
 
     private static void theOneInItsPlace() {
         Due.sentence("the 1 in its place does not");
-        // The LINK's OBJECT is 2, its KIND's two and 3: with its name 5, and 120 in all.
+        // The LINK's OBJECT is 2, the NUMBER's two and 3: with its name 5, and 120 in all.
         QueryGraph x = longOne(true, "O12 E O22 E O31 N00 E E");
         x.link(1, 1, 2);
         Due.due("120 worked out", x.ask(1), 120 - 4 * 22 + 4 - 4 + 1);
@@ -475,11 +515,9 @@ public final class AskEdgeTest {
 
     private static void collectedBeforeItsTwo() {
         Due.sentence("an OBJECT is COLLECTED before its 2.");
-        // 93 less the last 3, 11 and 11, then four codes and a name: 119 before the 2 of the last OBJECT.
+        // 114 codes come before what is in text 3: the 2 of its last OBJECT is the 120th.
         QueryGraph x = longOne(false, "O12 E O22 E U3 E");
         x.link(1, 1, 3);
-        Due.write(x, 3, "K3 O41 K5 N50 E E");
-        Due.dueNoAnswer(x, 1, CLASH);
         Due.write(x, 3, "K3 K4 O51 K5 N50 E E");
         Due.dueNoAnswer(x, 1, CLASH);
         // The name is the 120th code, the 2 would be the 121st.
@@ -493,7 +531,7 @@ public final class AskEdgeTest {
     }
 
     private static void clashOrLongWhatComesFirst() {
-        Due.sentence("WRONG, or what comes first: CLASH, or LONG when the 121st code is to be worked out.");
+        Due.sentence("The codes are worked out from left to right;");
         QueryGraph x = free();
         linkFour(x, 1, 1);
         x.link(1, 1, 2);

@@ -12,6 +12,7 @@ public final class DeclareEdgeTest {
         fourFields();
         kindsOfFields();
         targetsOfLinks();
+        aTypeOrAny();
         targetsOfNumbers();
         noSuchTypeOrTarget();
         noFieldBesideARow();
@@ -132,11 +133,12 @@ public final class DeclareEdgeTest {
     }
 
     private static void kindsOfFields() {
-        Due.sentence("a field is a NUMBER, a LINK or MANY;");
+        Due.sentence("Declares a field of a type, kind 0 .. 2,");
         QueryGraph x = withTypes(1);
         for (int kind : new int[] {-1, 3, Integer.MIN_VALUE, Integer.MAX_VALUE}) {
             Due.due("kind " + kind, x.field(0, kind, 0, false), REFUSED);
         }
+        Due.sentence("a field is a NUMBER, a LINK or MANY;");
         Due.due("kind 0", x.field(0, 0, 0, false), 0);
         Due.due("kind 1", x.field(0, 1, 0, false), 1);
         Due.due("kind 2", x.field(0, 2, 0, false), 2);
@@ -172,6 +174,26 @@ public final class DeclareEdgeTest {
         Due.due("a target that comes later", y.field(0, QueryGraph.LINK, 1, false), REFUSED);
         y.type();
         Due.due("the same when it is declared", y.field(0, QueryGraph.LINK, 1, false), 0);
+    }
+
+    private static void aTypeOrAny() {
+        Due.sentence("the last two have a target: a type, or 5 for any type;");
+        for (int target = 0; target <= 5; target++) {
+            QueryGraph x = withTypes(5);
+            x.field(0, QueryGraph.LINK, target, false);
+            x.field(0, QueryGraph.MANY, target, false);
+            for (int type = 0; type < 5; type++) {
+                x.row(type);
+            }
+            int linked = 0;
+            for (int type = 0; type < 5; type++) {
+                boolean fits = target == type || target == 5;
+                linked += fits ? 1 : 0;
+                boolean room = linked <= 4;
+                Due.due("LINK to " + target + " of " + type, x.link(1, 0, type + 1), fits ? 1 : REFUSED);
+                Due.due("MANY of " + target + " of " + type, x.link(1, 1, type + 1), fits ? (room ? linked : FULL) : REFUSED);
+            }
+        }
     }
 
     private static void targetsOfNumbers() {

@@ -6,6 +6,8 @@ public final class FillEdgeTest {
 
     public static void main(String[] args) {
         nothingAtFirst();
+        aRowOrNothing();
+        upToFourRows();
         numbersOfARow();
         rowAndFieldOfPut();
         onlyNumbersArePut();
@@ -48,6 +50,33 @@ public final class FillEdgeTest {
         }
         Due.write(x, 0, "O00 K0 E E");
         Due.dueAnswer(x, 12, "2 10 1 3", "");
+    }
+
+    private static void aRowOrNothing() {
+        Due.sentence("LINK: a row or nothing;");
+        QueryGraph x = twelve();
+        Due.write(x, 0, "O11 K0 E E");
+        Due.dueAnswer(x, 1, "2 11 1 3", "");
+        x.link(1, 1, 1);
+        Due.dueAnswer(x, 1, "2 11 2 10 2000 3 3", "");
+        x.clear(1, 1);
+        Due.dueAnswer(x, 1, "2 11 1 3", "");
+    }
+
+    private static void upToFourRows() {
+        Due.sentence("MANY: up to four rows, in order.");
+        QueryGraph x = twelve();
+        Due.write(x, 0, "O33 K0 E E");
+        Due.dueAnswer(x, 1, "2 13 4 5 3", "");
+        int[] others = {12, 3, 12, 1};
+        String objects = "";
+        for (int i = 0; i < 4; i++) {
+            Due.due("link", x.link(1, 3, others[i]), i + 1);
+            objects += others[i] == 12 ? "2 10 2001 3 " : "2 10 2000 3 ";
+            Due.dueAnswer(x, 1, "2 13 4 " + objects + "5 3", "");
+        }
+        Due.due("a fifth", x.link(1, 3, 2), FULL);
+        Due.dueAnswer(x, 1, "2 13 4 " + objects + "5 3", "");
     }
 
     private static void numbersOfARow() {

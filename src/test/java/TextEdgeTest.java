@@ -14,6 +14,8 @@ public final class TextEdgeTest {
         on();
         condition();
         use();
+        end();
+        atTheEnd();
         anyNumberWhereNothingIsSaid();
         sixteenTokens();
         allTextsFullAtOnce();
@@ -110,6 +112,34 @@ public final class TextEdgeTest {
                 dueToken(text, 5, fragment, 0, fragment >= 1 && fragment <= 3);
             }
         }
+    }
+
+    private static void end() {
+        Due.sentence("END 6.");
+        for (int n : new int[] {LEAST, -1, 0, 1, MOST}) {
+            dueToken(0, 6, n, 0, true);
+            dueToken(3, 6, 0, n, true);
+        }
+        dueToken(0, 7, 0, 0, false);
+    }
+
+    private static void atTheEnd() {
+        Due.sentence("Writes a token at the end of the text 0 .. 3:");
+        QueryGraph x = new QueryGraph();
+        x.type();
+        x.row(0);
+        for (int name = 9; name >= 3; name--) {
+            for (int text = 0; text <= 3; text++) {
+                Due.due("token", x.token(text, 2, name - text, 0), 10 - name);
+            }
+        }
+        for (int text = 3; text >= 1; text--) {
+            Due.due("token", x.token(text, 6, 0, 0), 8);
+        }
+        Due.due("token", x.token(0, 5, 3, 0), 8);
+        Due.due("token", x.token(0, 6, 0, 0), 9);
+        Due.dueAnswer(x, 1,
+            "2 19 2000 18 2000 17 2000 16 2000 15 2000 14 2000 13 2000 12 2000 11 2000 10 2000 3", "");
     }
 
     private static void anyNumberWhereNothingIsSaid() {
