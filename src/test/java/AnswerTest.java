@@ -8,7 +8,6 @@ public final class AnswerTest {
         missing();
         theLastAskCounts();
         counts();
-        theExampleOfTheReadme();
         Due.end();
     }
 
@@ -83,23 +82,6 @@ public final class AnswerTest {
         Due.dueAnswer(x, 3, "1", "4");
         Due.write(x, 0, "N40");
         Due.dueNoAnswer(x, 3, QueryGraph.WRONG);
-    }
-
-    private static void theExampleOfTheReadme() {
-        QueryGraph graph = new QueryGraph();
-        int person = graph.type();
-        int age = graph.field(person, QueryGraph.NUMBER, 0, true);
-        int friend = graph.field(person, QueryGraph.LINK, person, false);
-        int ann = graph.row(person);
-        int bob = graph.row(person);
-        graph.put(ann, age, 41);
-        graph.link(ann, friend, bob);
-        graph.token(0, 0, 1, age);
-        graph.token(0, 1, 2, friend);
-        graph.token(0, 0, 1, age);
-        graph.token(0, 6, 0, 0);
-        graph.token(0, 6, 0, 0);
-        Due.dueAnswer(graph, ann, "2 11 1041 12 1 3", "2.1");
     }
 
     private static void counts() {
